@@ -26,6 +26,7 @@ public final class DigestTest {
         compare("another rake", x, 1, 1, "");
         Check.sameShare("a share that is not exact", x.evenness(), 1.0 / 3.0);
         evennessBits();
+        fineRakeOfJustThousand();
         Check.same("digest is the same again", x.digest(), x.digest());
         Check.same("digest is not undoable", x.count(13), 6);
         Check.end();
@@ -42,6 +43,19 @@ public final class DigestTest {
                 Check.load(x, least + "," + greatest);
                 compare("heads " + least + ", " + greatest, x, 0, 0, "");
             }
+        }
+    }
+
+    /** Flows for which fineRake(1000) is not that of 999, and not that of 1001. */
+    private static void fineRakeOfJustThousand() {
+        int[][] flows = {{19907, 10, 999}, {15430, 13, 1001}};
+        for (int[] flow : flows) {
+            DuctRake x = new DuctRake();
+            x.radius(50);
+            x.set(0, flow[0]);
+            x.set(1, flow[1]);
+            Check.holds("fineRake differs at " + flow[2], x.fineRake(1000) != x.fineRake(flow[2]));
+            compare("an edge of fineRake", x, 0, 0, "");
         }
     }
 
