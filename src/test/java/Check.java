@@ -6,6 +6,16 @@ final class Check {
 
     private static int checks;
     private static int wrong;
+    private static String words = "";
+
+    static int count() {
+        return checks;
+    }
+
+    /** What fails from here on is reported with these words of the document. */
+    static void nowFor(String wordsOfTheDocument) {
+        words = wordsOfTheDocument;
+    }
 
     static void same(String call, long got, long due) {
         checks++;
@@ -70,7 +80,7 @@ final class Check {
 
     private static void report(String text) {
         wrong++;
-        System.out.println(text);
+        System.out.println((words.isEmpty() ? "" : "[" + words + "] ") + text);
     }
 
     private Check() {
